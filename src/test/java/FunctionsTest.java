@@ -230,6 +230,12 @@ final class FunctionsTest {
         c.bound(3, 3, 4, INVALID);
         c.count(12, 3);
         c.count(22, 4);
+        c.start(1, 2, 3, 0, 1);
+        c.bound(0, 1, 1, 1);
+        c.bound(1, 2, 2, 1);
+        c.bound(2, 3, 3, 1);
+        c.bound(2, 2, 2, 0);
+        c.bound(2, 4, 4, 0);
     }
 
     private static void direction(Calls c) {

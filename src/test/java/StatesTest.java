@@ -10,6 +10,7 @@ final class StatesTest {
     static void check(Due due) {
         keep(new Calls(due, "promise 22"));
         restore(new Calls(due, "promise 23"));
+        restoreOfAllRows(new Calls(due, "promise 23, full rows"));
         undo(new Calls(due, "promise 24"));
         undoOfEachChange(new Calls(due, "promise 24, each change"));
         historyOfFour(new Calls(due, "promise 24, four states"));
@@ -83,6 +84,78 @@ final class StatesTest {
         c.placeIs(-9, 0, 0, 8);
         c.restore(2);
         c.placeIs(6, 0, 5, 16);
+    }
+
+    /** Ten terms, eight directions and six places left: each comes back to its last number. */
+    private static void restoreOfAllRows(Calls c) {
+        c.variables(3, 2);
+        for (int i = 0; i < 9; i++) {
+            c.term(factorOf(i), i / 2 % 2, i / 2 % 4, 0, i + 1);
+        }
+        c.term(99, 0, 0, 1, 10);
+        c.dropDirection(4, 5);
+        c.dropDirection(4, 4);
+        c.direction(1, 2, 3, 4);
+        c.direction(-3, -2, -1, 5);
+        c.direction(3, 1, 2, 6);
+        c.direction(0, 0, -1, 7);
+        c.bound(0, -40, 40, 1);
+        c.bound(1, -41, 41, 1);
+        c.bound(2, -49, 42, 1);
+        c.start(30, 20, 40, 0, 1);
+        c.run(7, 7);
+        c.keep(10);
+        fullRows(c);
+        c.variables(1, 3);
+        c.start(-50, 0, 0, 0, 1);
+        c.term(1, 1, 0, 0, 1);
+        c.dropDirection(0, 1);
+        c.restore(10);
+        fullRows(c);
+        c.start(9, 9, 9, 4, 1);
+        c.dropTerm(0, 1);
+        c.dropDirection(0, 7);
+        c.run(6, 6);
+        c.undo(3);
+        c.undo(2);
+        c.undo(1);
+        c.undo(0);
+        fullRows(c);
+    }
+
+    /** The odd ones are the opposites of those ahead of them, so that only the last two terms matter. */
+    private static int factorOf(int index) {
+        return index % 2 == 0 ? index + 1 : -index;
+    }
+
+    private static void fullRows(Calls c) {
+        for (int i = 0; i < 9; i++) {
+            c.termIs(i, factorOf(i), i / 2 % 2, i / 2 % 4, 0);
+        }
+        c.termIs(9, 99, 0, 0, 1);
+        c.directionIs(0, 1, 0, 0);
+        c.directionIs(1, -1, 0, 0);
+        c.directionIs(2, 0, 1, 0);
+        c.directionIs(3, 0, -1, 0);
+        c.directionIs(4, 1, 2, 3);
+        c.directionIs(5, -3, -2, -1);
+        c.directionIs(6, 3, 1, 2);
+        c.directionIs(7, 0, 0, -1);
+        c.directionOf(5, 3, 4);
+        c.directionOf(7, 3, 3);
+        c.placeIs(-15, -10, -23, 16);
+        c.searchOf(7, 7);
+        for (int k = 0; k < 3; k++) {
+            c.count(10 + k, k == 2 ? -49 : -40 - k);
+            c.count(20 + k, 40 + k);
+        }
+        c.searchOf(8, 6);
+        int[][] left = {{-15, -10, -7}, {-15, -10, 9}, {-15, -10, 25}, {9, 6, 33}, {21, 14, 37}, {27, 18, 39}};
+        for (int i = 0; i < 6; i++) {
+            for (int k = 0; k < 3; k++) {
+                c.leftAt(i, k, left[i][k]);
+            }
+        }
     }
 
     private static void undo(Calls c) {

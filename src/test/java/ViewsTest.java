@@ -119,6 +119,11 @@ final class ViewsTest {
         c.poll(0);
         c.poll(0);
         c.directionOf(0, 3, 3);
+        c.start(-50, 0, 0, 0, 1);
+        c.directionOf(0, 3, 0);
+        c.poll(0);
+        c.poll(0);
+        c.poll(0);
         c.dropDirection(0, 3);
         c.directionOf(0, 3, 0);
         c.direction(1, 0, 0, 3);

@@ -13,6 +13,7 @@ final class WouldBeTest {
         spansOfOne(new Calls(due, "promise 19, one variable"));
         spansOfTwo(new Calls(due, "promise 19, two variables"));
         spansOfThree(new Calls(due, "promise 19, three variables"));
+        spansOfPlanes(new Calls(due, "promise 19, planes and half-spaces"));
         stuck(new Calls(due, "promise 20"));
         around(new Calls(due, "promise 21"));
         aroundOfThree(new Calls(due, "promise 21, three variables"));
@@ -155,6 +156,34 @@ final class WouldBeTest {
         c.spans(0);
     }
 
+    /** Only these directions, each told by three numbers; three variables. */
+    private static void spansOfThese(Calls c, int want, int... steps) {
+        c.meshes.variables(3);
+        for (int i = 5; i >= 0; i--) {
+            c.meshes.dropDirection(i);
+        }
+        for (int i = 0; i + 2 < steps.length; i += 3) {
+            c.direction(steps[i], steps[i + 1], steps[i + 2], i / 3);
+        }
+        c.spans(want);
+    }
+
+    private static void spansOfPlanes(Calls c) {
+        spansOfThese(c, 1, 1, 1, 1, -1, -1, 1, -1, 1, -1, 1, -1, -1);
+        spansOfThese(c, 0, 1, 1, 1, -1, -1, 1, -1, 1, -1);
+        spansOfThese(c, 0, 1, 1, 1, -1, -1, 1, -1, 1, -1, 1, 1, -1);
+        spansOfThese(c, 0, 1, 0, 1, -1, 0, 1, 0, 1, 1, 0, -1, 1);
+        spansOfThese(c, 0, 1, 0, -1, -1, 0, -1, 0, 1, -1, 0, -1, -1);
+        spansOfThese(c, 0, 1, 0, 0, -1, 0, 0, 0, 1, 0, 0, -1, 0, 1, 1, 2);
+        spansOfThese(c, 0, 1, 0, 0, -1, 0, 0, 0, 1, 0, 0, -1, 0, 1, 1, -2);
+        spansOfThese(c, 1, 1, 0, 0, -1, 0, 0, 0, 1, 0, 0, -1, 0, 1, 1, -2, 0, 0, 3);
+        spansOfThese(c, 0, 1, 1, 0, -1, -1, 0, 1, -1, 0, -1, 1, 0, 2, 1, 0, 3, 1, 0);
+        spansOfThese(c, 0, 1, 2, -3, -2, -1, 3, 1, -1, 0, -3, 3, 0, 2, -2, 0, 3, -1, -2);
+        spansOfThese(c, 0, 3, 2, 1, -3, -2, -1, 2, 2, 1, -1, -1, -1, 1, 2, 2);
+        spansOfThese(c, 1, 3, 2, 1, -3, -2, -1, 1, 0, 0, 0, 1, 0, -1, -1, 0);
+        spansOfThese(c, 0, 3, 3, 1, -1, 3, 2, 0, -1, 0);
+    }
+
     private static void stuck(Calls c) {
         c.stuck(-1, INVALID);
         c.stuck(5, INVALID);
@@ -227,6 +256,14 @@ final class WouldBeTest {
         c.term(99, 0, 0, 1, 4);
         c.term(99, 0, 0, 4, 5);
         c.aroundIs(2, 0, 0, -1);
+        c.bound(2, 1, 1, 0);
+        c.around(2, 0, IMPOSSIBLE);
+        c.bound(2, 0, 1, 1);
+        c.aroundIs(2, 0, 0, 0);
+        c.bound(1, 1, 1, 0);
+        c.stuck(0, IMPOSSIBLE);
+        c.bound(1, 0, 0, 1);
+        c.aroundIs(3, 0, 0, 0);
     }
 
     private static void aroundWithinBounds(Calls c) {
