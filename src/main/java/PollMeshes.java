@@ -387,6 +387,13 @@ public final class PollMeshes {
         return held ? 1 : 0;
     }
 
+    /** In a row of groups of so many elements each, those behind the index come down by one group. */
+    private static void closeGap(int[] row, int width, int index, int groups) {
+        for (int i = width * index; i + width < width * groups; i++) {
+            row[i] = row[i + width];
+        }
+    }
+
     /** A function: the sum of its terms. */
     private static final class Terms {
         int held;
@@ -411,12 +418,11 @@ public final class PollMeshes {
         }
 
         void remove(int index) {
-            for (int i = index; i + 1 < held; i++) {
-                factors[i] = factors[i + 1];
+            if (index < 0 || index >= held) {
+                return;
             }
-            for (int i = MOST_VARIABLES * index; i + MOST_VARIABLES < MOST_VARIABLES * held; i++) {
-                powers[i] = powers[i + MOST_VARIABLES];
-            }
+            closeGap(factors, 1, index, held);
+            closeGap(powers, MOST_VARIABLES, index, held);
             held--;
         }
 
@@ -511,12 +517,11 @@ public final class PollMeshes {
         }
 
         void remove(int index) {
-            for (int i = index; i + 1 < held; i++) {
-                taken[i] = taken[i + 1];
+            if (index < 0 || index >= held) {
+                return;
             }
-            for (int i = MOST_VARIABLES * index; i + MOST_VARIABLES < MOST_VARIABLES * held; i++) {
-                steps[i] = steps[i + MOST_VARIABLES];
-            }
+            closeGap(taken, 1, index, held);
+            closeGap(steps, MOST_VARIABLES, index, held);
             held--;
         }
 

@@ -43,8 +43,8 @@ final class ModelTest {
     /** Some runs search more, some type more; a new number of variables is rare, as it forgets much. */
     private int kindOfCall(int flavour) {
         int kind = next(KINDS);
-        if (kind == 0 && next(4) > 0) {
-            kind = 2;
+        if (kind == 0 && next(4) > 0 || kind == 2 && next(2) > 0) {
+            kind = 1;
         }
         if (flavour == 1 && next(3) == 0) {
             kind = 7 + next(4);
@@ -132,8 +132,8 @@ final class ModelTest {
             }
             case 3 -> {
                 int variable = number(0, model.count(0) - 1);
-                int low = number(-50, next(3) == 0 ? 50 : -10);
-                int high = number(Math.max(Math.min(low, 50), -50), 50);
+                int low = number(-50, next(6) == 0 ? 50 : -10);
+                int high = number(next(6) == 0 ? Math.max(Math.min(low, 50), -50) : 10, 50);
                 answer("bound", meshes.bound(variable, low, high), model.bound(variable, low, high),
                         variable, low, high);
             }
@@ -218,9 +218,9 @@ final class ModelTest {
     private void typeSome() {
         int character = next(40) == 0 ? number(32, 126) : SIGNS.charAt(next(SIGNS.length()));
         if (next(20) > 0 && model.fault(1) < 0) {
-            character = "xy+-+-+-".charAt(next(8));
+            character = "xyx+-+-+".charAt(next(8));
         } else if (next(20) > 0) {
-            character = "xy123".charAt(next(5));
+            character = "xyxyx123".charAt(next(8));
         }
         answer("type", meshes.type(character), model.type(character), character);
     }
