@@ -55,7 +55,7 @@ public final class PollMeshes {
             return INVALID_ARGUMENT;
         }
         int before = now.dimensions;
-        history.record(now);
+        history.push(now);
         now.reset(n);
         return before;
     }
@@ -70,7 +70,7 @@ public final class PollMeshes {
         if (now.terms.held >= MOST_TERMS) {
             return LIMIT_REACHED;
         }
-        history.record(now);
+        history.push(now);
         now.terms.add(factor, x, y, z);
         return now.terms.held;
     }
@@ -83,7 +83,7 @@ public final class PollMeshes {
             return NOT_POSSIBLE;
         }
         int factor = now.terms.factors[index];
-        history.record(now);
+        history.push(now);
         now.terms.remove(index);
         return factor;
     }
@@ -92,7 +92,7 @@ public final class PollMeshes {
         if (!now.hasVariable(variable) || !within(low, -EDGE, EDGE) || !within(high, low, EDGE)) {
             return INVALID_ARGUMENT;
         }
-        history.record(now);
+        history.push(now);
         now.bounds.low[variable] = low;
         now.bounds.high[variable] = high;
         return oneIf(now.placeIsAllowed());
@@ -108,7 +108,7 @@ public final class PollMeshes {
         if (now.directions.held >= MOST_DIRECTIONS) {
             return LIMIT_REACHED;
         }
-        history.record(now);
+        history.push(now);
         now.directions.add(x, y, z);
         return now.directions.held - 1;
     }
@@ -120,7 +120,7 @@ public final class PollMeshes {
         if (index >= now.directions.held) {
             return NOT_POSSIBLE;
         }
-        history.record(now);
+        history.push(now);
         now.directions.remove(index);
         now.search.forgetDirection(index);
         return now.directions.held;
@@ -132,7 +132,7 @@ public final class PollMeshes {
         if (!now.fit(x, y, z, -EDGE, EDGE) || !within(size, 0, MOST_SIZE_POWER)) {
             return INVALID_ARGUMENT;
         }
-        history.record(now);
+        history.push(now);
         now.search.begin(x, y, z, 1 << size);
         now.directions.forgetTaken();
         return oneIf(now.placeIsAllowed());
@@ -143,7 +143,7 @@ public final class PollMeshes {
             return INVALID_ARGUMENT;
         }
         int before = 10 * now.order + now.way;
-        history.record(now);
+        history.push(now);
         now.order = order;
         now.way = way;
         return before;
@@ -153,7 +153,7 @@ public final class PollMeshes {
         if (!now.canPoll()) {
             return NOT_POSSIBLE;
         }
-        history.record(now);
+        history.push(now);
         return now.pollOnce(trials);
     }
 
@@ -164,7 +164,7 @@ public final class PollMeshes {
         if (!now.canPoll()) {
             return NOT_POSSIBLE;
         }
-        history.record(now);
+        history.push(now);
         int polls = 0;
         do {
             now.pollOnce(trials);
@@ -328,7 +328,7 @@ public final class PollMeshes {
         if (!hasSnapshot) {
             return NOT_POSSIBLE;
         }
-        history.record(now);
+        history.push(now);
         now.copyFrom(snapshot);
         return now.terms.held;
     }
@@ -374,7 +374,7 @@ public final class PollMeshes {
         if (!text.isFunction(now.dimensions)) {
             return NOT_POSSIBLE;
         }
-        history.record(now);
+        history.push(now);
         now.terms.copyFrom(text.found);
         return now.terms.held;
     }
@@ -868,7 +868,7 @@ public final class PollMeshes {
         final State fourth = new State();
 
         /** The first one is the latest. */
-        void record(State state) {
+        void push(State state) {
             fourth.copyFrom(third);
             third.copyFrom(second);
             second.copyFrom(first);
