@@ -12,6 +12,7 @@ final class AllTests {
         WouldBeTest.check(due);
         StatesTest.check(due);
         TextsTest.check(due);
+        Edges.check(due);
         ModelTest.check(due);
         System.out.println("answers as due: " + due.right() + ", not as due: " + due.wrong());
         if (due.wrong() > 0 || due.right() == 0) {

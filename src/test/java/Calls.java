@@ -1,9 +1,15 @@
+import java.util.function.Consumer;
+
 /** A new object and the calls of it, each with the answer that is due. */
 final class Calls {
     static final int INVALID = -1000001;
     static final int IMPOSSIBLE = -1000002;
     static final int LIMIT = -1000003;
     static final int NOTHING = -1000004;
+
+    /** Numbers that a sum, a product or an index could wrap around with; the first half of them is negative. */
+    static final int[] WILD = {Integer.MIN_VALUE, Integer.MIN_VALUE + 1, -1431655765, -715827882, -65536,
+            65536, 715827883, 1431655766, Integer.MAX_VALUE - 1, Integer.MAX_VALUE};
 
     private static final long SHIFT = 20000000000L;
 
@@ -14,6 +20,75 @@ final class Calls {
     Calls(Due due, String test) {
         this.due = due;
         this.test = test;
+    }
+
+    /** So many terms, each of them the number 1. */
+    void ones(int many) {
+        for (int i = 1; i <= many; i++) {
+            term(1, 0, 0, 0, i);
+        }
+    }
+
+    void noDirections() {
+        for (int i = meshes.count(2) - 1; i >= 0; i--) {
+            dropDirection(i, i);
+        }
+    }
+
+    /** Only these directions, each told by three numbers. */
+    void onlyDirections(int... steps) {
+        noDirections();
+        for (int i = 0; i + 2 < steps.length; i += 3) {
+            direction(steps[i], steps[i + 1], steps[i + 2], i / 3);
+        }
+    }
+
+    /** The first four of two variables and four more, which makes eight. */
+    void eightDirections() {
+        direction(1, 1, 0, 4);
+        direction(-1, -1, 0, 5);
+        direction(3, -3, 0, 6);
+        direction(-3, 3, 0, 7);
+    }
+
+    void repeat(int many, Runnable call) {
+        for (int i = 0; i < many; i++) {
+            call.run();
+        }
+    }
+
+    /** Full rows of terms and directions, a search under way, a full history, a snapshot and a text. */
+    void rich() {
+        variables(3, 2);
+        term(2, 2, 0, 0, 1);
+        term(3, 0, 2, 0, 2);
+        term(1, 0, 0, 2, 3);
+        term(-5, 1, 1, 0, 4);
+        term(4, 0, 0, 1, 5);
+        for (int i = 6; i <= 9; i++) {
+            term(i, 0, 0, 0, i);
+        }
+        direction(1, 1, 1, 6);
+        direction(-1, -2, -3, 7);
+        bound(0, -40, 45, 1);
+        bound(2, -50, 49, 1);
+        write("x-3yy+12z");
+        order(1, 1, 0);
+        start(30, 20, -10, 0, 1);
+        run(5, 5);
+        keep(9);
+        term(7, 1, 0, 0, 10);
+        meshes.poll();
+        count(5, 4);
+    }
+
+    /** Two objects with the same calls, of which one has more: all that there is must be the same. */
+    void changesNothing(Consumer<Calls> before, Consumer<Calls> more) {
+        Calls twin = new Calls(due, test);
+        before.accept(this);
+        before.accept(twin);
+        more.accept(this);
+        Whole.compare(due, test, meshes, twin.meshes);
     }
 
     void variables(int n, int want) {
