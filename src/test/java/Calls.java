@@ -51,12 +51,6 @@ final class Calls {
         direction(-3, 3, 0, 7);
     }
 
-    void repeat(int many, Runnable call) {
-        for (int i = 0; i < many; i++) {
-            call.run();
-        }
-    }
-
     /** Full rows of terms and directions, a search under way, a full history, a snapshot and a text. */
     void rich() {
         variables(3, 2);

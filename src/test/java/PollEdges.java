@@ -165,6 +165,21 @@ final class PollEdges {
         c.placeIs(-1, 0, 0, 2);
     }
 
+    /** The value at the place itself is that of all three numbers. */
+    static void promise10BetterThanThePlaceOfThreeNumbers(Calls c) {
+        c.variables(3, 2);
+        c.term(1, 2, 0, 0, 1);
+        c.term(10, 0, 2, 0, 2);
+        c.term(3, 0, 0, 1, 3);
+        c.start(0, 1, 20, 2, 1);
+        c.poll(5);
+        c.placeIs(0, 1, 16, 8);
+        c.start(1, 0, -50, 0, 1);
+        c.poll(1);
+        c.poll(-1);
+        c.placeIs(0, 0, -50, 1);
+    }
+
     /** The values are beyond what an int holds: -6187500000 and those beside it. */
     static void promise10GreatValues(Calls c) {
         for (int i = 1; i <= 10; i++) {

@@ -85,6 +85,19 @@ final class SearchEdges {
         c.start(4, 0, 0, 0, 1);
     }
 
+    static void promise8EachVariableWithinItsOwnBounds(Calls c) {
+        c.variables(3, 2);
+        c.bound(0, 1, 3, 0);
+        c.bound(1, 11, 13, 0);
+        c.bound(2, 21, 23, 0);
+        c.start(2, 12, 22, 0, 1);
+        c.start(1, 11, 21, 0, 1);
+        c.start(3, 13, 23, 0, 1);
+        c.start(0, 12, 22, 0, 0);
+        c.start(2, 10, 22, 0, 0);
+        c.start(2, 12, 24, 0, 0);
+    }
+
     static void promise8PlaceThatIsNotAllowed(Calls c) {
         c.bound(0, -3, 4, 1);
         c.start(-4, 0, 0, 0, 0);
@@ -145,6 +158,22 @@ final class SearchEdges {
         c.directionOf(1, 3, 3);
         c.start(7, 0, 0, 0, 1);
         c.directionOf(1, 3, 0);
+    }
+
+    static void promise8NeitherTheFirstNorTheLastDirectionWasTaken(Calls c) {
+        c.eightDirections();
+        c.term(-1, 1, 0, 0, 1);
+        c.poll(0);
+        c.directionOf(0, 3, 1);
+        c.term(2, 1, 0, 0, 2);
+        c.term(-4, 0, 1, 0, 3);
+        c.order(0, 1, 0);
+        c.start(0, 0, 0, 0, 1);
+        c.directionOf(0, 3, 0);
+        c.poll(7);
+        c.directionOf(7, 3, 1);
+        c.start(0, 0, 0, 0, 1);
+        c.directionOf(7, 3, 0);
     }
 
     static void promise8NoLatestPoll(Calls c) {

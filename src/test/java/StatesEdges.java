@@ -51,7 +51,7 @@ final class StatesEdges {
         c.restore(2);
         c.termIs(0, 3, 1, 0, 0);
         c.termIs(1, 4, 0, 1, 0);
-        c.undo(4 - 1);
+        c.undo(3);
         c.restore(2);
     }
 

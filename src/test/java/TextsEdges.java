@@ -213,13 +213,33 @@ final class TextsEdges {
         c.termIs(1, 99, 0, 0, 0);
     }
 
-    static void promise27OtherCharacters(Calls c) {
+    static void promise27EachCharacterAlone(Calls c) {
         for (int character = 32; character <= 126; character++) {
-            boolean isOne = "xyz-123456789".indexOf(character) >= 0;
             c.meshes.clearText();
             c.type(character, 1);
-            c.fault(0, isOne ? c.meshes.fault(0) : 0);
-            c.fault(1, isOne ? c.meshes.fault(1) : 1);
+            if ("xy123456789".indexOf(character) >= 0) {
+                c.fault(0, NOTHING);
+                c.fault(1, NOTHING);
+            } else {
+                c.fault(0, character == '-' ? 1 : 0);
+                c.fault(1, character == 'z' ? 2 : 1);
+            }
+        }
+    }
+
+    /** Behind a letter there is a sign or one more letter. */
+    static void promise27EachCharacterBehindALetter(Calls c) {
+        for (int character = 32; character <= 126; character++) {
+            c.meshes.clearText();
+            c.type('x', 1);
+            c.type(character, 2);
+            if ("xy".indexOf(character) >= 0) {
+                c.fault(0, NOTHING);
+                c.fault(1, NOTHING);
+            } else {
+                c.fault(0, character == '+' || character == '-' ? 2 : 1);
+                c.fault(1, character == 'z' ? 2 : 1);
+            }
         }
     }
 

@@ -230,6 +230,16 @@ final class WouldBeEdges {
         c.spans(1);
     }
 
+    /** Whatever the numbers of the two on the line are, and whichever side the rest is on. */
+    static void promise19HalfPlaneOfAnyNumbers(Calls c) {
+        c.onlyDirections(-1, -1, 0, 0, -1, 0, 1, 0, 0, 1, 1, 0, 1, -1, 0);
+        c.spans(0);
+        c.onlyDirections(-1, -1, 0, 0, -1, 0, 1, 1, 0);
+        c.spans(0);
+        c.onlyDirections(0, 1, 0, 1, 1, 0, -1, -1, 0, -1, 0, 0);
+        c.spans(0);
+    }
+
     static void promise19JustBeyondTheHalfPlane(Calls c) {
         c.onlyDirections(3, 2, 0, -3, -1, 0, 0, 1, 0);
         c.spans(0);
@@ -298,6 +308,25 @@ final class WouldBeEdges {
         c.spans(0);
         c.direction(-1, -1, 3, 5);
         c.spans(1);
+    }
+
+    /** The factors that make them 0 are not all of one sign. */
+    static void promise19OneMoreThanVariablesOnOneSide(Calls c) {
+        c.variables(3, 2);
+        c.onlyDirections(3, -1, 2, 2, -3, 3, -2, -1, -2, -1, 1, 0);
+        c.spans(0);
+    }
+
+    static void promise19DroppedOnesDoNotCount(Calls c) {
+        c.spans(1);
+        c.dropDirection(3, 3);
+        c.spans(0);
+        c.variables(3, 2);
+        c.spans(1);
+        c.dropDirection(5, 5);
+        c.spans(0);
+        c.dropDirection(2, 4);
+        c.spans(0);
     }
 
     static void promise19EightDirections(Calls c) {
