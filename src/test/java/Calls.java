@@ -78,11 +78,14 @@ final class Calls {
 
     /** Two objects with the same calls, of which one has more: all that there is must be the same. */
     void changesNothing(Consumer<Calls> before, Consumer<Calls> more) {
-        Calls twin = new Calls(due, test);
-        before.accept(this);
-        before.accept(twin);
-        more.accept(this);
-        Whole.compare(due, test, meshes, twin.meshes);
+        for (int stage = 0; stage < Whole.STAGES; stage++) {
+            Calls one = new Calls(due, test);
+            Calls twin = new Calls(due, test);
+            before.accept(one);
+            before.accept(twin);
+            more.accept(one);
+            Whole.compare(due, test, stage, one.meshes, twin.meshes);
+        }
     }
 
     void variables(int n, int want) {

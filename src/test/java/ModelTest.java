@@ -1,7 +1,9 @@
 /** All promises: long runs of calls of every kind, each answer compared with the model's. */
 final class ModelTest {
-    private static final int RUNS = 1500;
+    private static final int RUNS = 9000;
+    /** Nothing is promised beyond this call of an object. */
     private static final int CALLS = 512;
+    private static final int CALLS_TO_COMPARE_ALL = 23 + 10 * (3 + 4 * 3) + 3;
     private static final int KINDS = 28;
     private static final String SIGNS = "xyz+-0123459 ?";
 
@@ -10,9 +12,8 @@ final class ModelTest {
     private final PollMeshes meshes = new PollMeshes();
     private final Model model = new Model();
     private long seed;
-    private String call;
-    private long got;
-    private long want;
+    private int calls;
+    private boolean differs;
 
     private ModelTest(Due due, int run) {
         this.due = due;
@@ -26,18 +27,16 @@ final class ModelTest {
         }
     }
 
+    /** All that there is is compared at the end of a run, and at times in the midst of it. */
     private void check(int flavour) {
-        for (int i = 0; i < CALLS; i++) {
-            int kind = kindOfCall(flavour);
-            perform(kind);
-            due.same(test, "call " + i + ", " + call, got, want);
-            if (i % 16 == 0) {
-                compareAll(i);
-            }
-            if (got != want) {
-                return;
+        while (calls + CALLS_TO_COMPARE_ALL < CALLS && !differs) {
+            perform(kindOfCall(flavour));
+            if (next(150) == 0 && calls + 2 * CALLS_TO_COMPARE_ALL < CALLS) {
+                compareAll();
             }
         }
+        compareAll();
+        due.same(test, "calls within " + CALLS, calls <= CALLS ? 1 : 0, 1);
     }
 
     /** Some runs search more, some type more; a new number of variables is rare, as it forgets much. */
@@ -97,10 +96,10 @@ final class ModelTest {
         return numberFor(variable, 0, next(2) == 0 ? 1 : next(2) == 0 ? 2 : 4);
     }
 
-    private void answer(String name, long gotAnswer, long wantAnswer, int... arguments) {
-        call = name + java.util.Arrays.toString(arguments);
-        got = gotAnswer;
-        want = wantAnswer;
+    private void answer(String name, long got, long want, int... arguments) {
+        calls++;
+        differs = differs || got != want;
+        due.same(test, "call " + calls + ", " + name + java.util.Arrays.toString(arguments), got, want);
     }
 
     private void perform(int kind) {
@@ -225,23 +224,22 @@ final class ModelTest {
         answer("type", meshes.type(character), model.type(character), character);
     }
 
-    private void compareAll(int at) {
-        String when = "after call " + at + ", ";
+    private void compareAll() {
         for (int what = 0; what < 23; what++) {
-            due.same(test, when + "count " + what, meshes.count(what), model.count(what));
+            answer("count", meshes.count(what), model.count(what), what);
         }
         for (int what = 0; what < 10; what++) {
-            due.same(test, when + "searchOf " + what, meshes.searchOf(what), model.searchOf(what));
-            due.same(test, when + "trialOf " + what, meshes.trialOf(what, 0), model.trialOf(what, 0));
+            answer("searchOf", meshes.searchOf(what), model.searchOf(what), what);
+            answer("trialOf", meshes.trialOf(what, 0), model.trialOf(what, 0), what, 0);
+            answer("trialOf", meshes.trialOf(what, 1), model.trialOf(what, 1), what, 1);
             for (int k = 0; k < 4; k++) {
-                due.same(test, when + "termOf " + what, meshes.termOf(what, k), model.termOf(what, k));
-                due.same(test, when + "directionOf " + what, meshes.directionOf(what, k),
-                        model.directionOf(what, k));
-                due.same(test, when + "leftAt " + what, meshes.leftAt(what, k), model.leftAt(what, k));
+                answer("termOf", meshes.termOf(what, k), model.termOf(what, k), what, k);
+                answer("directionOf", meshes.directionOf(what, k), model.directionOf(what, k), what, k);
+                answer("leftAt", meshes.leftAt(what, k), model.leftAt(what, k), what, k);
             }
         }
-        due.same(test, when + "spans", meshes.spans(), model.spans());
-        due.same(test, when + "fault", meshes.fault(0), model.fault(0));
-        due.same(test, when + "fault", meshes.fault(1), model.fault(1));
+        answer("spans", meshes.spans(), model.spans());
+        answer("fault", meshes.fault(0), model.fault(0), 0);
+        answer("fault", meshes.fault(1), model.fault(1), 1);
     }
 }

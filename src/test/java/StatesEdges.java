@@ -192,7 +192,6 @@ final class StatesEdges {
     }
 
     static void promise23UndoOfIt(Calls c) {
-        c.keep(0);
         c.changesNothing(d -> {
             d.rich();
             d.undo(3);

@@ -1,22 +1,28 @@
 import java.util.ArrayList;
 import java.util.List;
 
-/** All that an object holds: what there is, what would be, and the same behind undo, restore and read. */
+/**
+ * All that an object holds, at one of several stages: as it is, behind undos, behind restore, behind read.
+ * Each stage wants objects of its own, as one object has no promises beyond its 512th call.
+ */
 final class Whole {
+    static final int STAGES = 7;
+    private static final int MOST_UNDOS = 4;
+
     private final PollMeshes meshes;
     private final List<String> calls = new ArrayList<>();
     private final List<Long> answers = new ArrayList<>();
 
-    private Whole(PollMeshes meshes) {
+    private Whole(PollMeshes meshes, int stage) {
         this.meshes = meshes;
+        goTo(stage);
+        listState("at stage " + stage);
     }
 
     /** Prints the first answer that differs; the objects are used up by this. */
-    static void compare(Due due, String test, PollMeshes one, PollMeshes other) {
-        Whole first = new Whole(one);
-        Whole second = new Whole(other);
-        first.list();
-        second.list();
+    static void compare(Due due, String test, int stage, PollMeshes one, PollMeshes other) {
+        Whole first = new Whole(one, stage);
+        Whole second = new Whole(other, stage);
         for (int i = 0; i < first.calls.size(); i++) {
             long got = first.answers.get(i);
             long want = second.answers.get(i);
@@ -32,17 +38,18 @@ final class Whole {
         answers.add(answer);
     }
 
-    private void list() {
-        listState("at first");
-        for (int i = 1; i <= 5; i++) {
-            add("undo()", meshes.undo());
-            listState("behind undo " + i);
+    /** The stages up to MOST_UNDOS tell how many states are taken back. */
+    private void goTo(int stage) {
+        if (stage <= MOST_UNDOS) {
+            for (int i = 1; i <= stage; i++) {
+                add("undo() the time " + i, meshes.undo());
+            }
+        } else if (stage == MOST_UNDOS + 1) {
+            add("restore()", meshes.restore());
+        } else {
+            add("variables(3)", meshes.variables(3));
+            add("read()", meshes.read());
         }
-        add("restore()", meshes.restore());
-        listState("behind restore");
-        add("variables(3)", meshes.variables(3));
-        add("read()", meshes.read());
-        listState("behind read");
     }
 
     private void listState(String when) {
@@ -59,7 +66,7 @@ final class Whole {
                 add(when + " directionOf" + these, meshes.directionOf(index, what));
                 add(when + " leftAt" + these, meshes.leftAt(index, what));
                 add(when + " trialOf" + these, meshes.trialOf(index, what));
-                add(when + " around" + these, meshes.around(what, index));
+                add(when + " around(" + what + ", " + index + ")", meshes.around(what, index));
             }
             add(when + " stuck(" + index + ")", meshes.stuck(index));
             add(when + " value(" + index + ", 0, 0, 0)", meshes.value(index, 0, 0, 0));
